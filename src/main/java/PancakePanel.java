@@ -700,15 +700,16 @@ public final class PancakePanel {
         private final int[] sizes = new int[MAX_PANCAKES];
         private final int[] members = new int[MAX_PANCAKES * CAPACITY];
 
+        // size, member and contains call nothing: the search for a move in a setup is eight calls deep here.
         int size(int pancake) {
-            return cell(sizes, pancake);
+            return pancake >= 0 && pancake < sizes.length ? sizes[pancake] : 0;
         }
 
         int member(int pancake, int index) {
-            return index >= 0 && index < CAPACITY ? cell(members, pancake * CAPACITY + index) : 0;
+            int place = pancake * CAPACITY + index;
+            return place >= 0 && place < members.length ? members[place] : NONE;
         }
 
-        // Calls nothing, because the search for a move in a setup stands eight calls deep here.
         boolean contains(int pancake, int person) {
             if (pancake < 0 || pancake >= sizes.length) {
                 return false;
@@ -1627,7 +1628,8 @@ public final class PancakePanel {
         }
 
         private void readTalk() {
-            int pancake = scoredPancake();
+            int pancake = pancake();
+            checkScores(pancake);
             if (errorCode == 0) {
                 panel.scores.holdTalk(pancake);
             }
@@ -1669,7 +1671,8 @@ public final class PancakePanel {
         }
 
         private void readEven() {
-            int pancake = scoredPancake();
+            int pancake = pancake();
+            checkScores(pancake);
             if (errorCode == 0) {
                 panel.scores.makeEven(pancake);
             }
@@ -1731,14 +1734,6 @@ public final class PancakePanel {
             return number(0, panel.pancakes - 1);
         }
 
-        private int scoredPancake() {
-            int pancake = pancake();
-            if (!panel.scores.canBeTalkedOver(pancake)) {
-                fail(LIMIT_ERROR, at - 1);
-            }
-            return pancake;
-        }
-
         private int person() {
             checkName();
             int person = panel.personNamed(tokens.value(at));
@@ -1765,6 +1760,12 @@ public final class PancakePanel {
 
         private void checkSeat(int person, int pancake) {
             if (!panel.seats.contains(pancake, person)) {
+                fail(LIMIT_ERROR, at - 1);
+            }
+        }
+
+        private void checkScores(int pancake) {
+            if (!panel.scores.canBeTalkedOver(pancake)) {
                 fail(LIMIT_ERROR, at - 1);
             }
         }
