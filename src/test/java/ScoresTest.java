@@ -211,7 +211,20 @@ public final class ScoresTest {
         Check.same("third", panel.pancakeAt(2), 3);
         Check.same("without scores", panel.pancakeAt(3), 0);
         panel.score(0, 1, 4);
+        closeTotals();
         Check.same("equals by number", panel.rankOf(1) + 10 * panel.rankOf(2) + 100 * panel.rankOf(3), 210);
+    }
+
+    private static void closeTotals() {
+        // Means a 133, b 500, c 166, of all 200: totals 0: (267 + 200) / 2, 1: 234, 2: 200, 3: 150.
+        PancakePanel panel = Panels.of(BASE.substring(0, BASE.indexOf(";seat")) + ";seat a 0;seat b 0;seat c 1;seat a 2;"
+            + "seat c 2;seat a 3;seat c 3;score a 0 2;score a 2 1;score a 3 1;score b 0 5;score c 1 2;score c 2 2;"
+            + "score c 3 1");
+        Check.same("total rounded", panel.totalOf(0), 233);
+        Check.same("total greater by 1", panel.totalOf(1), 234);
+        Check.same("rank of the greater one", panel.rankOf(1), 0);
+        Check.same("rank of the lesser one", panel.rankOf(0), 1);
+        Check.same("third", panel.pancakeAt(2), 2);
     }
 
     private static void accepted() {

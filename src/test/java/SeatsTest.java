@@ -20,6 +20,7 @@ public final class SeatsTest {
         moves();
         moveOfOverloaded();
         moveSparesScores();
+        moveFromFull();
         moveOrder();
         movePassesRefusedHeirs();
         givenUp();
@@ -282,6 +283,20 @@ public final class SeatsTest {
         Check.same("not moved", Panels.seats(panel, 1), "0,1");
         Check.same("score stays", panel.scoreOf(0, 1), 9);
         Check.same("no move", panel.moveCount(), 0);
+        panel.undo();
+        panel.score(0, 1, 1);
+        Check.same("not from the least score", panel.fill() + 10 * panel.moveCount(), 1);
+    }
+
+    private static void moveFromFull() {
+        // h has a conflict with 0 and would be the fourth at 1, but for the one that leaves.
+        PancakePanel panel = Panels.of("panel 0 0;person a 1;person b 2;person c 3;person h 5;person x 6;person y 5;"
+            + "taster a 1 0 0 0 0;taster b 1 0 0 0 0;taster c 1 0 0 0 0;taster h 6 0 0 0 0;pancake 0 y;pancake 0 x;"
+            + "seat a 1;seat b 1;seat c 1");
+        Check.same("predicted", panel.lackingAfterFilling(), 2);
+        Check.same("fill", panel.fill(), 2);
+        Check.same("mover", Panels.seats(panel, 0), "0");
+        Check.same("full again", Panels.seats(panel, 1), "1,2,3");
     }
 
     private static void moveOrder() {

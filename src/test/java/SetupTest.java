@@ -93,6 +93,18 @@ public final class SetupTest {
         Check.same("code of the empty setup", panel.parseErrorCode(), SYNTAX);
         Check.same("position in the empty setup", panel.parseErrorPosition(), 0);
         Check.outside("parseSetup(1)", () -> panel.parseSetup(1));
+        Panels.append(panel, "panel 0 01;person a 7890");
+        Check.refused("a number cut off", () -> panel.parseSetup(7));
+        Check.same("position at the cut", panel.parseErrorPosition(), 7);
+        Panels.append(panel, "panel 0 0;person abc 7890");
+        Check.same("a number cut short", panel.parseSetup(22), 0);
+        Check.same("kitchen cut short", panel.kitchenOf(0), 7);
+        Panels.append(panel, "panel 0 0;fillx");
+        Check.same("a word cut short", panel.parseSetup(14), 0);
+        Panels.append(panel, "panel 0 0;" + " ".repeat(490));
+        Check.refused("a long early end", () -> panel.parseSetup(500));
+        Check.same("position of the early end", panel.parseErrorPosition(), 500);
+        Check.refused("the empty setup again", () -> panel.parseSetup(0));
         Check.same("code stays", panel.parseErrorCode(), SYNTAX);
         Check.same("position stays", panel.parseErrorPosition(), 0);
         Check.same("parse of the whole", Panels.parse(panel, BASE + "fill"), 2);
@@ -434,6 +446,8 @@ public final class SetupTest {
         Check.same("even is no talk", panel.talkCount(), 0);
         Check.same("even is no change", panel.changeCount(), 0);
         panel = valid(seats + "score a 0 9;score d 0 4;even 0");
+        Check.same("even of three", Panels.pancake(valid(seats + "score a 0 1;score b 0 9;score d 0 5;even 0"), 0),
+            "a=5,b=5,d=5/500");
         Check.same("even of two", Panels.pancake(panel, 0), "a=4,b=?,d=4/400");
         panel = valid(seats + "score a 0 9;score a 0 1");
         Check.same("score again", panel.scoreOf(0, 0), 1);
