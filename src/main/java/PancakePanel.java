@@ -1314,18 +1314,22 @@ public final class PancakePanel {
 
         // The oldest panel is used again for the new state.
         void remember(Panel panel) {
-            Panel oldest = past[past.length - 1];
-            System.arraycopy(past, 0, past, 1, past.length - 1);
-            past[0] = oldest;
-            oldest.copyFrom(panel);
-            size = Math.min(size + 1, MAX_UNDO);
+            int last = past.length - 1;
+            if (last >= 0) {
+                Panel oldest = past[last];
+                System.arraycopy(past, 0, past, 1, last);
+                past[0] = oldest;
+                oldest.copyFrom(panel);
+                size = Math.min(size + 1, past.length);
+            }
         }
 
         void bringBack(Panel panel) {
-            if (size > 0) {
+            int last = past.length - 1;
+            if (size > 0 && last >= 0) {
                 Panel latest = past[0];
-                System.arraycopy(past, 1, past, 0, past.length - 1);
-                past[past.length - 1] = latest;
+                System.arraycopy(past, 1, past, 0, last);
+                past[last] = latest;
                 panel.copyFrom(latest);
                 size--;
             }
