@@ -5,6 +5,9 @@ final class Panels {
 
     /** Appends the text, filled up with spaces to a multiple of twenty bytes. */
     static void append(PancakePanel panel, String text) {
+        if (text.length() > 500) {
+            throw new AssertionError("no buffer holds " + text);
+        }
         int length = (text.length() + 19) / 20 * 20;
         for (int i = 0; i < length; i += 20) {
             panel.append(word(text, i), word(text, i + 4), word(text, i + 8), word(text, i + 12),

@@ -29,26 +29,6 @@ public final class SetupTest {
         Check.finish();
     }
 
-    /** The text has a ^ ahead of the token with the error. */
-    private static void error(int code, String marked) {
-        int position = marked.indexOf('^');
-        String text = marked.substring(0, position) + marked.substring(position + 1);
-        PancakePanel panel = new PancakePanel();
-        Check.refused(marked, () -> Panels.parse(panel, text));
-        Check.same(marked + " code", panel.parseErrorCode(), code);
-        Check.same(marked + " position", panel.parseErrorPosition(), position);
-        Check.same(marked + " buffer", panel.bufferLength(), 0);
-        Check.noPanel(marked + " loaded", panel::personCount);
-    }
-
-    private static PancakePanel valid(String text) {
-        PancakePanel panel = new PancakePanel();
-        Check.same(text + " throws", Check.thrownBy(() -> Panels.parse(panel, text)), "nothing");
-        Check.same(text + " code", panel.parseErrorCode(), 0);
-        Check.same(text + " position", panel.parseErrorPosition(), PancakePanel.NONE);
-        return panel;
-    }
-
     private static void newObject() {
         PancakePanel panel = new PancakePanel();
         Check.same("new bufferLength", panel.bufferLength(), 0);
@@ -150,194 +130,194 @@ public final class SetupTest {
     }
 
     private static void syntaxErrors() {
-        error(SYNTAX, "^");
-        error(SYNTAX, "   ^");
-        error(SYNTAX, "panel^");
-        error(SYNTAX, "panel 0^");
-        error(SYNTAX, "panel 0 ^");
-        error(SYNTAX, "panel 0 0;^");
-        error(SYNTAX, "panel 0 0 ;   ^");
-        error(SYNTAX, " ^Panel 0 0");
-        error(SYNTAX, "^panels 0 0");
-        error(SYNTAX, "^pane 0 0");
-        error(SYNTAX, "^panelpanel 0 0");
-        error(SYNTAX, "^0 0");
-        error(SYNTAX, "^;");
-        error(SYNTAX, "panel ^a 0");
-        error(SYNTAX, "panel ^0000 0");
-        error(SYNTAX, "panel ^1000 0");
-        error(SYNTAX, "panel ^-1 0");
-        error(SYNTAX, "panel 0 ^;");
-        error(SYNTAX, "panel 0 0^,");
-        error(SYNTAX, "panel 0 0^\n");
-        error(SYNTAX, "panel 0 0^\u00e9");
-        error(SYNTAX, "panel 0 0^\0");
-        error(SYNTAX, "panel 0 0 ^person a 1");
-        error(SYNTAX, "panel 0 0 ^5");
-        error(SYNTAX, "panel 0 0^)");
-        error(SYNTAX, "panel 0 0^(");
-        error(SYNTAX, "panel 0 0;^;");
-        error(SYNTAX, "panel 0 0;^)");
-        error(SYNTAX, "panel 0 0;^panel 0 0");
-        error(SYNTAX, "panel 0 0;^abc");
-        error(SYNTAX, "panel 0 0;^abcdefghi");
-        error(SYNTAX, "panel 0 0;^7");
-        error(SYNTAX, "panel 0 0;^fillx");
-        error(SYNTAX, "panel 0 0;fill ^fill");
-        error(SYNTAX, "panel 0 0;person ^abcdefghi 1");
-        error(SYNTAX, "panel 0 0;person ^1 1");
-        error(SYNTAX, "panel 0 0;person ^97 1");
-        error(SYNTAX, "panel 0 0;person ^; 1");
-        error(SYNTAX, "panel 0 0;person a^");
-        error(SYNTAX, "panel 0 0;person a ^b");
-        error(SYNTAX, "panel 0 0;person a 1 ^2");
-        error(SYNTAX, "panel 0 0;person a 1 ^taster a 1 1 1 1 1");
-        error(SYNTAX, BASE + "taster c 1 1 1 1^");
-        error(SYNTAX, BASE + "taster c 1 1 1 1 ^;");
-        error(SYNTAX, BASE + "taster ^97 1 1 1 1 1");
-        error(SYNTAX, BASE + "pancake ^a");
-        error(SYNTAX, BASE + "pancake 0 ^1");
-        error(SYNTAX, BASE + "pancake 0 ^;");
-        error(SYNTAX, BASE + "pancake 0^");
-        error(SYNTAX, BASE + "pancake 0 a ^1");
-        error(SYNTAX, BASE + "pancake 0 a b c ^(");
-        error(SYNTAX, BASE + "pancake 0 a b c ^abcdefghi");
-        error(SYNTAX, BASE + "bid a ^b 0");
-        error(SYNTAX, BASE + "bid a 0^");
-        error(SYNTAX, BASE + "together a^");
-        error(SYNTAX, BASE + "conflict a^");
-        error(SYNTAX, BASE + "seat a ^;");
-        error(SYNTAX, BASE + "seat a 0 ^0");
-        error(SYNTAX, BASE + "fill ^0");
-        error(SYNTAX, BASE + "seat a 0;leave a ^b");
-        error(SYNTAX, BASE + "seat a 0;score a 0^");
-        error(SYNTAX, BASE + "talk^");
-        error(SYNTAX, BASE + "talk ^a");
-        error(SYNTAX, BASE + "limit a^");
-        error(SYNTAX, BASE + "kitchen a^");
-        error(SYNTAX, BASE + "swap 0^");
-        error(SYNTAX, BASE + "swap 0 ^a");
-        error(SYNTAX, BASE + "clear^");
-        error(SYNTAX, BASE + "even^");
-        error(SYNTAX, BASE + "copy a^");
-        error(SYNTAX, BASE + "copy a ^0");
-        error(SYNTAX, HEAD + "repeat ^(fill)");
-        error(SYNTAX, HEAD + "repeat 2 ^fill");
-        error(SYNTAX, HEAD + "repeat 2^");
-        error(SYNTAX, HEAD + "repeat 2 (^");
-        error(SYNTAX, HEAD + "repeat 2 (^)");
-        error(SYNTAX, HEAD + "repeat 2 (^;fill)");
-        error(SYNTAX, HEAD + "repeat 2 (fill^");
-        error(SYNTAX, HEAD + "repeat 2 (fill;^)");
-        error(SYNTAX, HEAD + "repeat 2 (fill ^(");
-        error(SYNTAX, HEAD + "repeat 2 (fill)^)");
-        error(SYNTAX, HEAD + "repeat 2 (fill) ^fill");
-        error(SYNTAX, HEAD + "repeat 2 (repeat 2 (fill)^");
-        error(SYNTAX, HEAD + "repeat 2 (repeat 2 (fill) ^fill)");
+        Setups.error(SYNTAX, "^");
+        Setups.error(SYNTAX, "   ^");
+        Setups.error(SYNTAX, "panel^");
+        Setups.error(SYNTAX, "panel 0^");
+        Setups.error(SYNTAX, "panel 0 ^");
+        Setups.error(SYNTAX, "panel 0 0;^");
+        Setups.error(SYNTAX, "panel 0 0 ;   ^");
+        Setups.error(SYNTAX, " ^Panel 0 0");
+        Setups.error(SYNTAX, "^panels 0 0");
+        Setups.error(SYNTAX, "^pane 0 0");
+        Setups.error(SYNTAX, "^panelpanel 0 0");
+        Setups.error(SYNTAX, "^0 0");
+        Setups.error(SYNTAX, "^;");
+        Setups.error(SYNTAX, "panel ^a 0");
+        Setups.error(SYNTAX, "panel ^0000 0");
+        Setups.error(SYNTAX, "panel ^1000 0");
+        Setups.error(SYNTAX, "panel ^-1 0");
+        Setups.error(SYNTAX, "panel 0 ^;");
+        Setups.error(SYNTAX, "panel 0 0^,");
+        Setups.error(SYNTAX, "panel 0 0^\n");
+        Setups.error(SYNTAX, "panel 0 0^\u00e9");
+        Setups.error(SYNTAX, "panel 0 0^\0");
+        Setups.error(SYNTAX, "panel 0 0 ^person a 1");
+        Setups.error(SYNTAX, "panel 0 0 ^5");
+        Setups.error(SYNTAX, "panel 0 0^)");
+        Setups.error(SYNTAX, "panel 0 0^(");
+        Setups.error(SYNTAX, "panel 0 0;^;");
+        Setups.error(SYNTAX, "panel 0 0;^)");
+        Setups.error(SYNTAX, "panel 0 0;^panel 0 0");
+        Setups.error(SYNTAX, "panel 0 0;^abc");
+        Setups.error(SYNTAX, "panel 0 0;^abcdefghi");
+        Setups.error(SYNTAX, "panel 0 0;^7");
+        Setups.error(SYNTAX, "panel 0 0;^fillx");
+        Setups.error(SYNTAX, "panel 0 0;fill ^fill");
+        Setups.error(SYNTAX, "panel 0 0;person ^abcdefghi 1");
+        Setups.error(SYNTAX, "panel 0 0;person ^1 1");
+        Setups.error(SYNTAX, "panel 0 0;person ^97 1");
+        Setups.error(SYNTAX, "panel 0 0;person ^; 1");
+        Setups.error(SYNTAX, "panel 0 0;person a^");
+        Setups.error(SYNTAX, "panel 0 0;person a ^b");
+        Setups.error(SYNTAX, "panel 0 0;person a 1 ^2");
+        Setups.error(SYNTAX, "panel 0 0;person a 1 ^taster a 1 1 1 1 1");
+        Setups.error(SYNTAX, BASE + "taster c 1 1 1 1^");
+        Setups.error(SYNTAX, BASE + "taster c 1 1 1 1 ^;");
+        Setups.error(SYNTAX, BASE + "taster ^97 1 1 1 1 1");
+        Setups.error(SYNTAX, BASE + "pancake ^a");
+        Setups.error(SYNTAX, BASE + "pancake 0 ^1");
+        Setups.error(SYNTAX, BASE + "pancake 0 ^;");
+        Setups.error(SYNTAX, BASE + "pancake 0^");
+        Setups.error(SYNTAX, BASE + "pancake 0 a ^1");
+        Setups.error(SYNTAX, BASE + "pancake 0 a b c ^(");
+        Setups.error(SYNTAX, BASE + "pancake 0 a b c ^abcdefghi");
+        Setups.error(SYNTAX, BASE + "bid a ^b 0");
+        Setups.error(SYNTAX, BASE + "bid a 0^");
+        Setups.error(SYNTAX, BASE + "together a^");
+        Setups.error(SYNTAX, BASE + "conflict a^");
+        Setups.error(SYNTAX, BASE + "seat a ^;");
+        Setups.error(SYNTAX, BASE + "seat a 0 ^0");
+        Setups.error(SYNTAX, BASE + "fill ^0");
+        Setups.error(SYNTAX, BASE + "seat a 0;leave a ^b");
+        Setups.error(SYNTAX, BASE + "seat a 0;score a 0^");
+        Setups.error(SYNTAX, BASE + "talk^");
+        Setups.error(SYNTAX, BASE + "talk ^a");
+        Setups.error(SYNTAX, BASE + "limit a^");
+        Setups.error(SYNTAX, BASE + "kitchen a^");
+        Setups.error(SYNTAX, BASE + "swap 0^");
+        Setups.error(SYNTAX, BASE + "swap 0 ^a");
+        Setups.error(SYNTAX, BASE + "clear^");
+        Setups.error(SYNTAX, BASE + "even^");
+        Setups.error(SYNTAX, BASE + "copy a^");
+        Setups.error(SYNTAX, BASE + "copy a ^0");
+        Setups.error(SYNTAX, HEAD + "repeat ^(fill)");
+        Setups.error(SYNTAX, HEAD + "repeat 2 ^fill");
+        Setups.error(SYNTAX, HEAD + "repeat 2^");
+        Setups.error(SYNTAX, HEAD + "repeat 2 (^");
+        Setups.error(SYNTAX, HEAD + "repeat 2 (^)");
+        Setups.error(SYNTAX, HEAD + "repeat 2 (^;fill)");
+        Setups.error(SYNTAX, HEAD + "repeat 2 (fill^");
+        Setups.error(SYNTAX, HEAD + "repeat 2 (fill;^)");
+        Setups.error(SYNTAX, HEAD + "repeat 2 (fill ^(");
+        Setups.error(SYNTAX, HEAD + "repeat 2 (fill)^)");
+        Setups.error(SYNTAX, HEAD + "repeat 2 (fill) ^fill");
+        Setups.error(SYNTAX, HEAD + "repeat 2 (repeat 2 (fill)^");
+        Setups.error(SYNTAX, HEAD + "repeat 2 (repeat 2 (fill) ^fill)");
     }
 
     private static void rangeErrors() {
-        error(RANGE, "panel ^901 0");
-        error(RANGE, "panel ^999 99");
-        error(RANGE, "panel 900 ^11");
-        error(RANGE, "panel 0 0;person ^abcdefg 1");
-        error(RANGE, "panel 0 0;person ^abcdefgh 1");
-        error(RANGE, "panel 0 0;person a ^10");
-        error(RANGE, BASE + "taster ^abcdefg 1 1 1 1 1");
-        error(RANGE, BASE + "taster c ^0 1 1 1 1");
-        error(RANGE, BASE + "taster c ^7 1 1 1 1");
-        error(RANGE, BASE + "taster c 1 ^10 1 1 1");
-        error(RANGE, BASE + "taster c 1 1 1 1 ^10");
-        error(RANGE, BASE + "pancake ^4 a");
-        error(RANGE, BASE + "pancake 0 ^abcdefg");
-        error(RANGE, HEAD + "person a 1;taster a 1 1 1 1 1;bid a ^0 1");
-        error(RANGE, BASE + "bid a ^2 1");
-        error(RANGE, BASE + "bid a 0 ^4");
-        error(RANGE, BASE + "bid ^personb 0 1");
-        error(RANGE, BASE + "together ^personb a");
-        error(RANGE, BASE + "together a ^personb");
-        error(RANGE, BASE + "conflict a ^2");
-        error(RANGE, BASE + "seat a ^2");
-        error(RANGE, BASE + "leave a ^2");
-        error(RANGE, BASE + "score a ^2 0");
-        error(RANGE, BASE + "seat a 0;score a 0 ^0");
-        error(RANGE, BASE + "seat a 0;score a 0 ^10");
-        error(RANGE, BASE + "talk ^2");
-        error(RANGE, BASE + "limit a ^0");
-        error(RANGE, BASE + "limit a ^7");
-        error(RANGE, BASE + "kitchen a ^10");
-        error(RANGE, BASE + "swap ^2 0");
-        error(RANGE, BASE + "swap 0 ^2");
-        error(RANGE, BASE + "clear ^2");
-        error(RANGE, BASE + "even ^2");
-        error(RANGE, BASE + "copy a ^personb");
-        error(RANGE, HEAD + "repeat ^0 (fill)");
-        error(RANGE, HEAD + "repeat ^10 (fill)");
+        Setups.error(RANGE, "panel ^901 0");
+        Setups.error(RANGE, "panel ^999 99");
+        Setups.error(RANGE, "panel 900 ^11");
+        Setups.error(RANGE, "panel 0 0;person ^abcdefg 1");
+        Setups.error(RANGE, "panel 0 0;person ^abcdefgh 1");
+        Setups.error(RANGE, "panel 0 0;person a ^10");
+        Setups.error(RANGE, BASE + "taster ^abcdefg 1 1 1 1 1");
+        Setups.error(RANGE, BASE + "taster c ^0 1 1 1 1");
+        Setups.error(RANGE, BASE + "taster c ^7 1 1 1 1");
+        Setups.error(RANGE, BASE + "taster c 1 ^10 1 1 1");
+        Setups.error(RANGE, BASE + "taster c 1 1 1 1 ^10");
+        Setups.error(RANGE, BASE + "pancake ^4 a");
+        Setups.error(RANGE, BASE + "pancake 0 ^abcdefg");
+        Setups.error(RANGE, HEAD + "person a 1;taster a 1 1 1 1 1;bid a ^0 1");
+        Setups.error(RANGE, BASE + "bid a ^2 1");
+        Setups.error(RANGE, BASE + "bid a 0 ^4");
+        Setups.error(RANGE, BASE + "bid ^personb 0 1");
+        Setups.error(RANGE, BASE + "together ^personb a");
+        Setups.error(RANGE, BASE + "together a ^personb");
+        Setups.error(RANGE, BASE + "conflict a ^2");
+        Setups.error(RANGE, BASE + "seat a ^2");
+        Setups.error(RANGE, BASE + "leave a ^2");
+        Setups.error(RANGE, BASE + "score a ^2 0");
+        Setups.error(RANGE, BASE + "seat a 0;score a 0 ^0");
+        Setups.error(RANGE, BASE + "seat a 0;score a 0 ^10");
+        Setups.error(RANGE, BASE + "talk ^2");
+        Setups.error(RANGE, BASE + "limit a ^0");
+        Setups.error(RANGE, BASE + "limit a ^7");
+        Setups.error(RANGE, BASE + "kitchen a ^10");
+        Setups.error(RANGE, BASE + "swap ^2 0");
+        Setups.error(RANGE, BASE + "swap 0 ^2");
+        Setups.error(RANGE, BASE + "clear ^2");
+        Setups.error(RANGE, BASE + "even ^2");
+        Setups.error(RANGE, BASE + "copy a ^personb");
+        Setups.error(RANGE, HEAD + "repeat ^0 (fill)");
+        Setups.error(RANGE, HEAD + "repeat ^10 (fill)");
     }
 
     private static void nameErrors() {
-        error(NAME, BASE + "person ^a 5");
-        error(NAME, BASE + "person ^d 10");
-        error(NAME, BASE + "taster ^x 1 1 1 1 1");
-        error(NAME, BASE + "taster ^a 1 1 1 1 1");
-        error(NAME, BASE + "taster ^aa 1 1 1 1 1");
-        error(NAME, BASE + "pancake 0 ^x");
-        error(NAME, BASE + "pancake 0 a ^a");
-        error(NAME, BASE + "pancake 0 a b ^a");
-        error(NAME, BASE + "pancake 0 a b ^b");
-        error(NAME, BASE + "pancake 0 a ^fill");
-        error(NAME, BASE + "bid ^x 0 1");
-        error(NAME, BASE + "bid ^c 0 1");
-        error(NAME, BASE + "together ^x a");
-        error(NAME, BASE + "together a ^x");
-        error(NAME, BASE + "together a ^a");
-        error(NAME, BASE + "together a b;together a ^b");
-        error(NAME, BASE + "together a b;together b ^a");
-        error(NAME, BASE + "conflict ^x 0");
-        error(NAME, BASE + "seat ^x 0");
-        error(NAME, BASE + "leave ^x 0");
-        error(NAME, BASE + "score ^x 0 1");
-        error(NAME, BASE + "limit ^x 1");
-        error(NAME, BASE + "limit ^c 1");
-        error(NAME, BASE + "kitchen ^x 1");
-        error(NAME, BASE + "swap 1 ^1");
-        error(NAME, BASE + "copy ^x a");
-        error(NAME, BASE + "copy ^c a");
-        error(NAME, BASE + "copy a ^x");
-        error(NAME, BASE + "copy a ^c");
-        error(NAME, BASE + "copy a ^a");
+        Setups.error(NAME, BASE + "person ^a 5");
+        Setups.error(NAME, BASE + "person ^d 10");
+        Setups.error(NAME, BASE + "taster ^x 1 1 1 1 1");
+        Setups.error(NAME, BASE + "taster ^a 1 1 1 1 1");
+        Setups.error(NAME, BASE + "taster ^aa 1 1 1 1 1");
+        Setups.error(NAME, BASE + "pancake 0 ^x");
+        Setups.error(NAME, BASE + "pancake 0 a ^a");
+        Setups.error(NAME, BASE + "pancake 0 a b ^a");
+        Setups.error(NAME, BASE + "pancake 0 a b ^b");
+        Setups.error(NAME, BASE + "pancake 0 a ^fill");
+        Setups.error(NAME, BASE + "bid ^x 0 1");
+        Setups.error(NAME, BASE + "bid ^c 0 1");
+        Setups.error(NAME, BASE + "together ^x a");
+        Setups.error(NAME, BASE + "together a ^x");
+        Setups.error(NAME, BASE + "together a ^a");
+        Setups.error(NAME, BASE + "together a b;together a ^b");
+        Setups.error(NAME, BASE + "together a b;together b ^a");
+        Setups.error(NAME, BASE + "conflict ^x 0");
+        Setups.error(NAME, BASE + "seat ^x 0");
+        Setups.error(NAME, BASE + "leave ^x 0");
+        Setups.error(NAME, BASE + "score ^x 0 1");
+        Setups.error(NAME, BASE + "limit ^x 1");
+        Setups.error(NAME, BASE + "limit ^c 1");
+        Setups.error(NAME, BASE + "kitchen ^x 1");
+        Setups.error(NAME, BASE + "swap 1 ^1");
+        Setups.error(NAME, BASE + "copy ^x a");
+        Setups.error(NAME, BASE + "copy ^c a");
+        Setups.error(NAME, BASE + "copy a ^x");
+        Setups.error(NAME, BASE + "copy a ^c");
+        Setups.error(NAME, BASE + "copy a ^a");
     }
 
     private static void limitErrors() {
         String full = HEAD + persons(16);
-        error(LIMIT, full + ";^person zz 1");
-        error(LIMIT, full + ";^person a 99");
-        error(LIMIT, full + ";^person");
-        valid(HEAD + persons(16) + pancakes(10));
-        error(LIMIT, HEAD + persons(4) + pancakes(10) + ";^pancake 0 a");
-        error(LIMIT, HEAD + persons(4) + pancakes(10) + ";^pancake");
-        valid(HEAD + persons(4) + ";pancake 0 a b c");
-        error(LIMIT, HEAD + persons(4) + ";pancake 0 a b c ^d");
-        error(LIMIT, BASE + "seat c ^0");
-        error(LIMIT, BASE + "seat d ^1");
-        error(LIMIT, BASE + "seat a 0;seat a ^0");
-        error(LIMIT, BASE + "seat b 0;seat b ^1");
-        error(LIMIT, BASE + "conflict a 0;seat a ^0");
-        error(LIMIT, BASE + "kitchen a 3;seat a ^0");
-        error(LIMIT, BASE + "together c a;seat a ^0");
-        error(LIMIT, BASE + "person e 5;taster e 1 1 1 1 1;seat a 0;seat b 0;seat d 0;seat e ^0");
-        error(LIMIT, BASE + "leave a ^0");
-        error(LIMIT, BASE + "seat a 0;leave a ^1");
-        error(LIMIT, BASE + "seat a 0;leave a 0;leave a ^0");
-        error(LIMIT, BASE + "score a ^0 1");
-        error(LIMIT, BASE + "score c ^0 10");
-        error(LIMIT, BASE + "conflict a 0;conflict a ^0");
-        error(LIMIT, BASE + "talk ^0");
-        error(LIMIT, BASE + "seat a 0;seat b 0;score a 0 1;talk ^0");
-        error(LIMIT, BASE + "even ^0");
-        error(LIMIT, BASE + "seat a 0;score a 0 1;even ^0");
-        error(LIMIT, HEAD + "repeat 1 (repeat 1 (^repeat 1 (fill)))");
-        error(LIMIT, HEAD + "repeat 1 (fill;repeat 1 (fill;^repeat");
+        Setups.error(LIMIT, full + ";^person zz 1");
+        Setups.error(LIMIT, full + ";^person a 99");
+        Setups.error(LIMIT, full + ";^person");
+        Setups.valid(HEAD + persons(16) + pancakes(10));
+        Setups.error(LIMIT, HEAD + persons(4) + pancakes(10) + ";^pancake 0 a");
+        Setups.error(LIMIT, HEAD + persons(4) + pancakes(10) + ";^pancake");
+        Setups.valid(HEAD + persons(4) + ";pancake 0 a b c");
+        Setups.error(LIMIT, HEAD + persons(4) + ";pancake 0 a b c ^d");
+        Setups.error(LIMIT, BASE + "seat c ^0");
+        Setups.error(LIMIT, BASE + "seat d ^1");
+        Setups.error(LIMIT, BASE + "seat a 0;seat a ^0");
+        Setups.error(LIMIT, BASE + "seat b 0;seat b ^1");
+        Setups.error(LIMIT, BASE + "conflict a 0;seat a ^0");
+        Setups.error(LIMIT, BASE + "kitchen a 3;seat a ^0");
+        Setups.error(LIMIT, BASE + "together c a;seat a ^0");
+        Setups.error(LIMIT, BASE + "person e 5;taster e 1 1 1 1 1;seat a 0;seat b 0;seat d 0;seat e ^0");
+        Setups.error(LIMIT, BASE + "leave a ^0");
+        Setups.error(LIMIT, BASE + "seat a 0;leave a ^1");
+        Setups.error(LIMIT, BASE + "seat a 0;leave a 0;leave a ^0");
+        Setups.error(LIMIT, BASE + "score a ^0 1");
+        Setups.error(LIMIT, BASE + "score c ^0 10");
+        Setups.error(LIMIT, BASE + "conflict a 0;conflict a ^0");
+        Setups.error(LIMIT, BASE + "talk ^0");
+        Setups.error(LIMIT, BASE + "seat a 0;seat b 0;score a 0 1;talk ^0");
+        Setups.error(LIMIT, BASE + "even ^0");
+        Setups.error(LIMIT, BASE + "seat a 0;score a 0 1;even ^0");
+        Setups.error(LIMIT, HEAD + "repeat 1 (repeat 1 (^repeat 1 (fill)))");
+        Setups.error(LIMIT, HEAD + "repeat 1 (fill;repeat 1 (fill;^repeat");
     }
 
     private static String persons(int count) {
@@ -353,56 +333,56 @@ public final class SetupTest {
     }
 
     private static void smallestCodeFirst() {
-        error(RANGE, BASE + "taster ^unknown 1 1 1 1 1");
-        error(RANGE, BASE + "pancake 0 a b c ^unknown");
-        error(NAME, BASE + "pancake 0 a b c ^x");
-        error(NAME, BASE + "pancake 0 a b c ^b");
-        error(RANGE, BASE + "seat c ^7");
-        error(SYNTAX, BASE + "seat c ^1000");
-        error(RANGE, BASE + "talk ^9");
-        error(RANGE, BASE + "swap 1 ^2");
-        error(SYNTAX, HEAD + "repeat 1 (repeat 1 (^repeats");
+        Setups.error(RANGE, BASE + "taster ^unknown 1 1 1 1 1");
+        Setups.error(RANGE, BASE + "pancake 0 a b c ^unknown");
+        Setups.error(NAME, BASE + "pancake 0 a b c ^x");
+        Setups.error(NAME, BASE + "pancake 0 a b c ^b");
+        Setups.error(RANGE, BASE + "seat c ^7");
+        Setups.error(SYNTAX, BASE + "seat c ^1000");
+        Setups.error(RANGE, BASE + "talk ^9");
+        Setups.error(RANGE, BASE + "swap 1 ^2");
+        Setups.error(SYNTAX, HEAD + "repeat 1 (repeat 1 (^repeats");
     }
 
     private static void repeats() {
-        PancakePanel panel = valid(BASE + "seat a 0;seat b 0;score a 0 9;score b 0 1;repeat 3 (talk 0);fill");
+        PancakePanel panel = Setups.valid(BASE + "seat a 0;seat b 0;score a 0 9;score b 0 1;repeat 3 (talk 0);fill");
         Check.same("three talks", panel.talkCount(), 3);
         Check.same("talked down", panel.scoreOf(0, 0), 6);
-        panel = valid(BASE + "seat a 0;seat b 0;score a 0 9;score b 0 1;"
+        panel = Setups.valid(BASE + "seat a 0;seat b 0;score a 0 9;score b 0 1;"
             + "repeat 2 (talk 0;repeat 3 (talk 0;even 0); talk 0)");
         Check.same("nested talks", panel.talkCount(), 10);
-        panel = valid(BASE + "seat a 0;seat b 0;score a 0 9;score b 0 1;repeat 9(repeat 9(talk 0));"
+        panel = Setups.valid(BASE + "seat a 0;seat b 0;score a 0 9;score b 0 1;repeat 9(repeat 9(talk 0));"
             + "repeat 1(talk 0);repeat 1 (repeat 1 (talk 0);repeat 2 (talk 0))");
         Check.same("eighty-five talks", panel.talkCount(), 85);
-        error(NAME, HEAD + "repeat 2 (person ^a 1)");
-        valid(HEAD + "repeat 1 (person a 1)");
-        error(LIMIT, BASE + "person f 9;repeat 9 (^pancake 0 f)");
-        valid(BASE + "person f 9;repeat 8 (pancake 0 f)");
-        error(LIMIT, BASE + "repeat 2 (seat a ^0)");
-        error(LIMIT, BASE + "seat a 0;repeat 2 (leave a ^0)");
-        error(NAME, BASE + "repeat 3 (repeat 1 (together a ^b))");
-        error(SYNTAX, HEAD + "repeat 2 (fill;^x)");
+        Setups.error(NAME, HEAD + "repeat 2 (person ^a 1)");
+        Setups.valid(HEAD + "repeat 1 (person a 1)");
+        Setups.error(LIMIT, BASE + "person f 9;repeat 9 (^pancake 0 f)");
+        Setups.valid(BASE + "person f 9;repeat 8 (pancake 0 f)");
+        Setups.error(LIMIT, BASE + "repeat 2 (seat a ^0)");
+        Setups.error(LIMIT, BASE + "seat a 0;repeat 2 (leave a ^0)");
+        Setups.error(NAME, BASE + "repeat 3 (repeat 1 (together a ^b))");
+        Setups.error(SYNTAX, HEAD + "repeat 2 (fill;^x)");
     }
 
     private static void spaces() {
-        PancakePanel panel = valid("  panel900 10;person ab1;person b 002 ;pancake3ab b");
+        PancakePanel panel = Setups.valid("  panel900 10;person ab1;person b 002 ;pancake3ab b");
         Check.same("ab", Panels.name(panel, 0), "ab");
         Check.same("kitchen of ab", panel.kitchenOf(0), 1);
         Check.same("kitchen of b", panel.kitchenOf(1), 2);
         Check.same("cooks", panel.cookCount(0), 2);
         Check.same("topic", panel.topicOf(0), 3);
-        error(SYNTAX, "panel 0 0;^per son a 1");
-        valid("panel 0 0;person person 1;person fill 2;person panel 3;pancake 0 person fill panel");
+        Setups.error(SYNTAX, "panel 0 0;^per son a 1");
+        Setups.valid("panel 0 0;person person 1;person fill 2;person panel 3;pancake 0 person fill panel");
     }
 
     private static void personItems() {
-        PancakePanel panel = valid("panel 900 10;person abcdef 0;person b 9;taster b 6 0 9 1 2;taster abcdef 1 9 8 7 6");
+        PancakePanel panel = Setups.valid("panel 900 10;person abcdef 0;person b 9;taster b 6 0 9 1 2;taster abcdef 1 9 8 7 6");
         Check.same("longest name", Panels.name(panel, 0), "abcdef");
         Check.same("kitchen 9", panel.kitchenOf(1), 9);
         Check.same("limit", panel.limitOf(1), 6);
         Check.same("taste 1", panel.tasteOf(1, 1), 9);
         Check.same("taste 3", panel.tasteOf(0, 3), 6);
-        panel = valid(BASE + "limit a 6;kitchen a 3;bid a 1 3;bid a 0 2;copy a d;copy b a");
+        panel = Setups.valid(BASE + "limit a 6;kitchen a 3;bid a 1 3;bid a 0 2;copy a d;copy b a");
         Check.same("limit set", panel.limitOf(0), 6);
         Check.same("kitchen set", panel.kitchenOf(0), 3);
         Check.same("kitchen gives a conflict", panel.conflict(0, 0), 2);
@@ -410,57 +390,57 @@ public final class SetupTest {
         Check.same("copied bid", panel.bidOf(3, 0), 2);
         Check.same("copied second bid", panel.bidOf(3, 1), 3);
         Check.same("copied away", panel.bidOf(0, 1), 0);
-        panel = valid(BASE + "together a c;conflict b 1");
+        panel = Setups.valid(BASE + "together a c;conflict b 1");
         Check.same("together", panel.conflict(0, 0), 3);
         Check.same("together with one of two", panel.conflict(0, 1), 3);
         Check.same("conflict", panel.conflict(1, 1), 4);
     }
 
     private static void seatItems() {
-        PancakePanel panel = valid(BASE + "seat d 0;seat a 0;fill");
+        PancakePanel panel = Setups.valid(BASE + "seat d 0;seat a 0;fill");
         Check.same("seats and fill", Panels.seats(panel, 0), "3,0");
         Check.same("seats filled", Panels.seats(panel, 1), "0,1");
         Check.same("fill counts", panel.fillCount(), 2);
         Check.same("undo after a setup", panel.undoCount(), 0);
-        panel = valid(BASE + "seat d 0;seat a 0;score d 0 4;leave d 0");
+        panel = Setups.valid(BASE + "seat d 0;seat a 0;score d 0 4;leave d 0");
         Check.same("leave", Panels.pancake(panel, 0), "a=?/0");
         Check.same("leave takes the score", panel.scoreOf(3, 0), 0);
-        panel = valid(BASE + "seat d 0;seat a 0;seat a 1;score d 0 4;score a 1 5;clear 0;clear 0");
+        panel = Setups.valid(BASE + "seat d 0;seat a 0;seat a 1;score d 0 4;score a 1 5;clear 0;clear 0");
         Check.same("clear takes the seats", panel.seatCount(0), 0);
         Check.same("clear takes the scores", panel.scoreOf(3, 0), 0);
         Check.same("clear spares the others", panel.scoreOf(0, 1), 5);
         Check.same("average after clear", panel.averageScore(), 5.0);
-        panel = valid(BASE + "seat a 0;seat a 1;limit a 1;kitchen a 3");
+        panel = Setups.valid(BASE + "seat a 0;seat a 1;limit a 1;kitchen a 3");
         Check.same("seats stay after limit and kitchen", panel.loadOf(0), 2);
         Check.same("imbalance after limit and kitchen", panel.imbalance(), 3);
     }
 
     private static void scoreItems() {
         String seats = BASE + "seat a 0;seat b 0;seat d 0;";
-        PancakePanel panel = valid(seats + "score a 0 9;score b 0 2;score d 0 4;talk 0");
+        PancakePanel panel = Setups.valid(seats + "score a 0 9;score b 0 2;score d 0 4;talk 0");
         Check.same("talk", Panels.pancake(panel, 0), "a=8,b=3,d=4/500");
         Check.same("talks", panel.talkCount(), 1);
         Check.same("changes", panel.changeCount(), 2);
-        panel = valid(seats + "score a 0 9;score b 0 2;score d 0 4;even 0");
+        panel = Setups.valid(seats + "score a 0 9;score b 0 2;score d 0 4;even 0");
         Check.same("even", Panels.pancake(panel, 0), "a=4,b=4,d=4/400");
         Check.same("even is no talk", panel.talkCount(), 0);
         Check.same("even is no change", panel.changeCount(), 0);
-        panel = valid(seats + "score a 0 9;score d 0 4;even 0");
-        Check.same("even of three", Panels.pancake(valid(seats + "score a 0 1;score b 0 9;score d 0 5;even 0"), 0),
+        panel = Setups.valid(seats + "score a 0 9;score d 0 4;even 0");
+        Check.same("even of three", Panels.pancake(Setups.valid(seats + "score a 0 1;score b 0 9;score d 0 5;even 0"), 0),
             "a=5,b=5,d=5/500");
         Check.same("even of two", Panels.pancake(panel, 0), "a=4,b=?,d=4/400");
-        panel = valid(seats + "score a 0 9;score a 0 1");
+        panel = Setups.valid(seats + "score a 0 9;score a 0 1");
         Check.same("score again", panel.scoreOf(0, 0), 1);
         Check.same("one score", panel.scoreCount(0), 1);
     }
 
     private static void otherItems() {
-        PancakePanel panel = valid("panel 101 1;" + BASE.substring(HEAD.length()) + "swap 1 0");
+        PancakePanel panel = Setups.valid("panel 101 1;" + BASE.substring(HEAD.length()) + "swap 1 0");
         Check.same("swapped topic", panel.topicOf(0), 3);
         Check.same("other swapped topic", panel.topicOf(1), 0);
         Check.same("cooks stay", panel.cookCount(1), 2);
-        Check.same("no pancakes", valid("panel 0 0").pancakeCount(), 0);
-        Check.same("no persons", valid("panel 0 0;fill").personCount(), 0);
+        Check.same("no pancakes", Setups.valid("panel 0 0").pancakeCount(), 0);
+        Check.same("no persons", Setups.valid("panel 0 0;fill").personCount(), 0);
     }
 
     /** A setup of 500 bytes, all of them tokens, each taken up to 81 times. */
@@ -469,7 +449,7 @@ public final class SetupTest {
         String text = "panel 0 0;repeat 9(repeat 9(fill;" + items + "))";
         text = text.substring(0, text.length() - 3) + "))";
         Check.same("length of the longest", text.length(), 499);
-        valid(text);
+        Setups.valid(text);
         PancakePanel panel = new PancakePanel();
         for (int i = 0; i < 25; i++) {
             panel.append(0x3b3b3b3b, 0x3b3b3b3b, 0x3b3b3b3b, 0x3b3b3b3b, 0x3b3b3b3b);
