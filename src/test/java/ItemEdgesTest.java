@@ -11,8 +11,8 @@ public final class ItemEdgesTest {
     // Fills every row that a setup has, so that what it left over would be seen in PLAIN.
     private static final String MESS = "panel 900 10;person a 1;person b 1;person c 3;person d 4;person e 5;"
         + "taster a 1 9 9 9 9;taster b 6 9 9 9 9;taster c 6 9 9 9 9;together a c;together b c;pancake 3 e;pancake 3 e;"
-        + "pancake 3 e d;conflict b 0;conflict c 0;bid c 0 3;bid c 1 2;seat a 1;fill;score b 1 9;score c 1 1;score b 2 9;"
-        + "talk 1";
+        + "pancake 3 e d;conflict b 0;conflict c 0;bid c 0 3;bid c 1 2;seat a 1;fill;score b 1 9;score c 1 1;"
+        + "score b 2 9;talk 1";
     private static final String PLAIN = "panel 5 1;person a 0;person b 5;person c 6;taster c 6 0 0 0 0;pancake 0 a;"
         + "pancake 0 b";
 
@@ -141,10 +141,10 @@ public final class ItemEdgesTest {
             String repeat = "repeat " + count;
             Check.same(repeat, Panels.of(SCORED + repeat + "(talk 0)").talkCount(), count);
             Check.same(repeat + " in 9", Panels.of(SCORED + "repeat 9(" + repeat + "(talk 0))").talkCount(), 9 * count);
-            Check.same(repeat + " of 2", Panels.of(SCORED + repeat + "(talk 0;repeat 2(talk 1);talk 0)").talkCount(),
-                4 * count);
-            Check.same(repeat + " of two", Panels.of(SCORED + repeat + "(repeat 1(talk 0);repeat 3(talk 1))").talkCount(),
-                4 * count);
+            String around = repeat + "(talk 0;repeat 2(talk 1);talk 0)";
+            Check.same(around, Panels.of(SCORED + around).talkCount(), 4 * count);
+            String both = repeat + "(repeat 1(talk 0);repeat 3(talk 1))";
+            Check.same(both, Panels.of(SCORED + both).talkCount(), 4 * count);
         }
         PancakePanel panel = Panels.of(SCORED + "repeat 3(talk 0);talk 1");
         Check.same("each pass takes effect", panel.scoreOf(0, 0), 6);

@@ -39,6 +39,8 @@ public final class TermsEdgesTest {
         moverForReasonFive();
         moverAboveLimit();
         moveFromPancakeZero();
+        moveFromFull();
+        heirsThatCanNot();
         means();
         adjustedScores();
         totalsTowardZero();
@@ -150,8 +152,8 @@ public final class TermsEdgesTest {
         for (int place = 0; place < 3; place++) {
             String[] cooks = {"p", "q", "r"};
             cooks[place] = "x";
-            PancakePanel panel = Panels.of("panel 0 0;person x 1;person p 2;person q 3;person r 4;person y 1;person z 5;"
-                + "together z x;pancake 0 " + String.join(" ", cooks));
+            PancakePanel panel = Panels.of("panel 0 0;person x 1;person p 2;person q 3;person r 4;person y 1;"
+                + "person z 5;together z x;pancake 0 " + String.join(" ", cooks));
             Check.same("cook in place " + place, panel.conflict(0, 0), 1);
             Check.same("kitchen of the cook in place " + place, panel.conflict(4, 0), 2);
             Check.same("together with the cook in place " + place, panel.conflict(5, 0), 3);
@@ -163,7 +165,8 @@ public final class TermsEdgesTest {
     }
 
     private static void togetherBothWays() {
-        PancakePanel panel = Panels.of("panel 0 0;person a 1;person b 2;person c 3;together a b;pancake 0 a;pancake 0 b");
+        PancakePanel panel = Panels.of("panel 0 0;person a 1;person b 2;person c 3;together a b;pancake 0 a;"
+            + "pancake 0 b");
         Check.same("b with the pancake of a", panel.conflict(1, 0), 3);
         Check.same("a with the pancake of b", panel.conflict(0, 1), 3);
         Check.same("c with none", panel.conflict(2, 0) + panel.conflict(2, 1), 0);
@@ -244,8 +247,8 @@ public final class TermsEdgesTest {
         Check.same("of those who can", panel.bestTaster(0), 3);
         panel.assign(3, 0);
         Check.same("not one who tastes it already", panel.bestTaster(0), 0);
-        PancakePanel close = Panels.of("panel 0 0;person a 1;person b 2;person x 3;taster a 1 9 0 0 0;taster b 1 0 0 0 0;"
-            + "pancake 0 x;bid b 0 1");
+        PancakePanel close = Panels.of("panel 0 0;person a 1;person b 2;person x 3;taster a 1 9 0 0 0;"
+            + "taster b 1 0 0 0 0;pancake 0 x;bid b 0 1");
         Check.same("10 ahead of 9", close.bestTaster(0), 1);
     }
 
@@ -324,7 +327,8 @@ public final class TermsEdgesTest {
         Check.same("no tasters", filled("panel 0 0;person a 1;pancake 0 a"), "0: moves 0");
     }
 
-    private static final String MOVES = "panel 0 0;person a 1;person b 2;person h 3;person x 5;pancake 0 x;pancake 0 x;";
+    private static final String MOVES = "panel 0 0;person a 1;person b 2;person h 3;person x 5;pancake 0 x;"
+        + "pancake 0 x;";
 
     private static void smallestMover() {
         // a could leave 2 and b could leave 1 to h; the mover counts first, not the pancake that is left.
@@ -344,7 +348,7 @@ public final class TermsEdgesTest {
     }
 
     private static void leftBeforeHeir() {
-        // h can inherit 1 alone, b 2 alone: the pancake that is left counts first. Then a leaves 2 to b and comes back.
+        // h can inherit 1 alone, b 2 alone: the pancake that is left counts first. Then a leaves 2 to b for 1.
         Check.same("h inherits 1", filled(MOVES + "pancake 0 x;taster a 2 0 0 0 0;taster b 1 0 0 0 0;"
             + "taster h 1 0 0 0 0;conflict b 0;conflict b 1;conflict h 0;conflict h 2;seat a 1;seat a 2"),
             "4:0 2,0 1 moves 2");
@@ -364,8 +368,8 @@ public final class TermsEdgesTest {
 
     private static void moverForReasonFive() {
         // a has a conflict with 0 and so no reason 5; its limit is reached.
-        Check.same("a stays", filled(MOVES + "taster a 1 0 0 0 0;taster b 6 0 0 0 0;conflict a 0;conflict b 0;seat a 1"),
-            "1: 0,1 moves 0");
+        Check.same("a stays", filled(MOVES + "taster a 1 0 0 0 0;taster b 6 0 0 0 0;conflict a 0;conflict b 0;"
+            + "seat a 1"), "1: 0,1 moves 0");
         Check.same("at the limit", filled(MOVES + "taster a 1 0 0 0 0;taster b 6 0 0 0 0;conflict b 0;seat a 1"),
             "2:0 1 moves 1");
     }
@@ -381,6 +385,30 @@ public final class TermsEdgesTest {
             "2:1 0 moves 1");
         Check.same("person 1 leaves 0 to person 0", filled(MOVES + "taster b 1 0 0 0 0;taster a 6 0 0 0 0;"
             + "conflict a 1;seat b 0"), "2:0 1 moves 1");
+    }
+
+    /** "as if t had no seat at q": neither is q full then, nor does t's place among its tasters stay. */
+    private static void moveFromFull() {
+        // h has a conflict with 0, and with 2 by the kitchen of y.
+        String text = MOVES + "person c 4;person y 3;taster a 1 0 0 0 0;taster b 1 0 0 0 0;taster c 1 0 0 0 0;"
+            + "pancake 0 y;conflict a 0;conflict b 0;conflict c 0;conflict h 0;conflict c 2;conflict b 2;seat a 1;"
+            + "seat b 1;seat c 1";
+        Check.same("no heir at all", filled(text), "0: 0,1,4  moves 0");
+        Check.same("h inherits the third seat", filled(text + ";taster h 6 0 0 0 0"), "2: 1,4,2 0 moves 1");
+        Check.same("h is at its limit", filled(text + ";pancake 0 x;taster h 1 0 0 0 0;seat h 3"),
+            "0: 0,1,4  2 moves 0");
+    }
+
+    /** The heir is one who could taste q: a taster who does not yet, without a conflict and below the limit. */
+    private static void heirsThatCanNot() {
+        String text = MOVES + "taster a 1 0 0 0 0;seat a 1;";
+        Check.same("no taster", filled(text + "conflict b 0"), "0: 0 moves 0");
+        Check.same("tastes it already", filled(text + "taster b 6 0 0 0 0;seat b 1;conflict b 0"), "0: 0,1 moves 0");
+        Check.same("a conflict", filled(text + "taster b 6 0 0 0 0;conflict b 0;conflict b 1"), "0: 0 moves 0");
+        Check.same("the limit", filled(text + "taster b 1 0 0 0 0;pancake 0 x;seat b 2;conflict b 0;conflict a 2"),
+            "0: 0 1 moves 0");
+        Check.same("the limit is not reached", filled(text + "taster b 2 0 0 0 0;pancake 0 x;seat b 2;conflict b 0;"
+            + "conflict a 2"), "2:0 1 1 moves 1");
     }
 
     // ---- 5. scores
@@ -473,6 +501,11 @@ public final class TermsEdgesTest {
         Check.same("equal totals by number", order(panel), "1302");
         panel.unassign(0, 3);
         Check.same("without scores by number", order(panel), "1023");
+        // Means of a 133, b 500, c 166, of all 200: adjusted at 0 267 and 200, at 1 234, at 2 167 and 234.
+        PancakePanel close = Panels.of(FOUR + ";seat a 0;seat b 0;seat c 1;seat a 2;seat c 2;seat a 3;seat c 3;"
+            + "score a 0 2;score b 0 5;score c 1 2;score a 2 1;score c 2 2;score a 3 1;score c 3 1");
+        Check.same("totals 233 and 234", close.totalOf(0) * 1000 + close.totalOf(1), 233234);
+        Check.same("234 ahead of 233", order(close), "1023");
     }
 
     private static String order(PancakePanel panel) {

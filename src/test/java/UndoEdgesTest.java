@@ -273,9 +273,8 @@ public final class UndoEdgesTest {
         PancakePanel none = Panels.of("panel 0 0");
         Check.same("no scores", none.saveState(0), 0);
         Check.same("no scores again", none.restoreState(0), 0);
-        StringBuilder many = new StringBuilder("panel 0 0;person a 1;person b 2;person c 3;person x 4;taster a 6 0 0 0 0;"
-            + "taster b 6 0 0 0 0;taster c 6 0 0 0 0" + ";pancake 0 x".repeat(6));
-        PancakePanel full = Panels.of(many + ";fill");
+        PancakePanel full = Panels.of("panel 0 0;person a 1;person b 2;person c 3;person x 4;taster a 6 0 0 0 0;"
+            + "taster b 6 0 0 0 0;taster c 6 0 0 0 0" + ";pancake 0 x".repeat(6) + ";fill");
         for (int i = 0; i < 18; i++) {
             full.score(i % 3, i / 3, 1 + i % 9);
         }
