@@ -1296,9 +1296,10 @@ public final class PancakePanel {
         }
     }
 
-    /** The states before the latest changes, the latest one first. */
+    /** The states before the latest changes, in a ring: the oldest one gives its place to a new one. */
     private static final class History {
         private final Panel[] past;
+        private int latest;
         int size;
 
         History() {
@@ -1312,25 +1313,18 @@ public final class PancakePanel {
             size = 0;
         }
 
-        // The oldest panel is used again for the new state.
         void remember(Panel panel) {
-            int last = past.length - 1;
-            if (last >= 0) {
-                Panel oldest = past[last];
-                System.arraycopy(past, 0, past, 1, last);
-                past[0] = oldest;
-                oldest.copyFrom(panel);
+            latest = latest < past.length - 1 ? latest + 1 : 0;
+            if (latest >= 0 && latest < past.length) {
+                past[latest].copyFrom(panel);
                 size = Math.min(size + 1, past.length);
             }
         }
 
         void bringBack(Panel panel) {
-            int last = past.length - 1;
-            if (size > 0 && last >= 0) {
-                Panel latest = past[0];
-                System.arraycopy(past, 1, past, 0, last);
-                past[last] = latest;
-                panel.copyFrom(latest);
+            if (size > 0 && latest >= 0 && latest < past.length) {
+                panel.copyFrom(past[latest]);
+                latest = latest > 0 ? latest - 1 : past.length - 1;
                 size--;
             }
         }

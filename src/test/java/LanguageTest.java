@@ -17,6 +17,7 @@ import com.sun.source.tree.TryTree;
 import com.sun.source.tree.VariableTree;
 import com.sun.source.util.JavacTask;
 import com.sun.source.util.SourcePositions;
+import com.sun.source.util.TreePath;
 import com.sun.source.util.TreePathScanner;
 import com.sun.source.util.Trees;
 import java.io.File;
@@ -144,10 +145,21 @@ public final class LanguageTest {
             if (!isOwn && !isImplied) {
                 String name = owner + "." + called.getSimpleName();
                 Check.isTrue("the library has " + name, LIBRARY.contains(name));
+                if (name.equals("java.lang.System.arraycopy")) {
+                    rowOfNumbers(tree, 0);
+                    rowOfNumbers(tree, 2);
+                }
             } else if (method != null) {
                 calls.computeIfAbsent(method, m -> new HashSet<>()).add(called);
             }
             return super.visitMethodInvocation(tree, v);
+        }
+
+        /** Rule 4 can be read so that arraycopy, too, is for arrays of numbers alone. */
+        private void rowOfNumbers(MethodInvocationTree tree, int argument) {
+            String type = trees.getTypeMirror(
+                new TreePath(getCurrentPath(), tree.getArguments().get(argument))).toString();
+            Check.isTrue("a row of numbers is copied, not " + type, type.equals("int[]") || type.equals("long[]"));
         }
 
         /** Objects are made in constructors alone, so that no run can fill the room. */
